@@ -607,7 +607,7 @@ public final class CutDistances {
         }
 
         private boolean hasPair(int i, int j) {
-            return hasPoint(i) && hasPoint(j) && i != j;
+            return i >= 0 && i < n && j >= 0 && j < n && i != j;
         }
 
         private int lastCut() {
@@ -619,8 +619,8 @@ public final class CutDistances {
         }
 
         private int pairOf(int i, int j) {
-            int low = Math.min(i, j);
-            int high = Math.max(i, j);
+            int low = i < j ? i : j;
+            int high = i < j ? j : i;
             return low * (2 * n - low - 1) / 2 + high - low - 1;
         }
 
@@ -835,7 +835,7 @@ public final class CutDistances {
         private final int[] b = new int[MOST_POINTS];
         private final int[] rest = new int[MOST_POINTS + 1];
         private final int[] frontValue = new int[MOST_POINTS + 1];
-        private final int[][] pull = new int[MOST_POINTS + 1][MOST_POINTS];
+        private final int[][] pull = new int[MOST_POINTS][MOST_POINTS];
 
         private void start(Table of, int width) {
             table.copyFrom(of);

@@ -40,6 +40,7 @@ final class DistancesTest {
     private static void points() {
         CutDistances x = new CutDistances();
         x.put(0, 1, 5);
+        x.place(0, 1, 2);
         x.place(1, 3, 4);
         check.due("2 below", x.points(1), BAD);
         check.due("2 above", x.points(7), BAD);
@@ -50,6 +51,7 @@ final class DistancesTest {
         check.due("2 the same N", x.points(4), 4);
         check.due("2 no deeds behind it", x.back(), STATE);
         check.due("2 distances are 0", x.count(2), 0);
+        check.due("2 places are 0", x.place(0, 0, 0), 0);
         check.due("2 places are 0", x.place(1, 0, 0), 0);
         check.due("2 least", x.points(2), 4);
         spelled("2 two points", x, "2;0");
@@ -78,6 +80,8 @@ final class DistancesTest {
         check.due("4 second point below", x.at(0, -1), BAD);
         check.due("4 second point above", x.at(0, 4), BAD);
         check.due("3 refused ones are no deeds", x.count(3), 2);
+        check.due("3 to 0", x.put(1, 3, 0), 7);
+        check.due("4 is 0", x.at(1, 3), 0);
         x.points(6);
         for (int i = 0; i < 6; i++) {
             for (int j = i + 1; j < 6; j++) {
@@ -132,6 +136,11 @@ final class DistancesTest {
         Texts.read(x, "4;999;1,999;999,1,1");
         check.due("6 two stops", x.paths(), 3);
         spelled("6 by the last points", x, "4;3;1,2;2,1,1");
+        check.due("5 refused", x.cut(1, -3), STATE);
+        check.due("6 behind a refused one", x.paths(), 0);
+        x.points(3);
+        check.due("6 behind points", x.paths(), 0);
+        check.due("6 N stays", x.count(0), 3);
     }
 
     private static void place() {
@@ -167,6 +176,14 @@ final class DistancesTest {
         check.due("8 taken back", x.back(), 1);
         spelled("8 as they were", x, "4;0;7,0;0,0,0");
         check.due("8 places stay", x.place(0, 0, 0), 9900);
+        x.points(3);
+        x.place(1, 2, 3);
+        check.due("8 behind points", x.town(), 2);
+        spelled("8 N stays", x, "3;5;0,5");
+        x.points(6);
+        x.place(5, 4, 4);
+        check.due("8 six points", x.town(), 5);
+        spelled("8 six places", x, "6;0;0,0;0,0,0;0,0,0,0;8,8,8,8,8");
     }
 
     private static void stretch() {
@@ -187,6 +204,9 @@ final class DistancesTest {
         check.due("9 just 999", x.stretch(3), 999);
         Texts.read(x, "3;0;0,500");
         check.due("9 just above", x.stretch(2), STATE);
+        Texts.read(x, "6;1;1,1;1,1,1;1,1,1,1;1,1,1,1,7");
+        check.due("9 six points", x.stretch(3), 63);
+        check.due("9 the last pair", x.at(4, 5), 21);
     }
 
     private static void back() {

@@ -33,6 +33,13 @@ final class HoldersTest {
         check.due("27 over others", x.hold(5), 6);
         check.due("27 fifteen", x.number(5, 14), 0);
         check.due("27 no sixteenth", x.number(5, 15), NO);
+        x.row(5, 20);
+        for (int i = 0; i < 20; i++) {
+            x.set(5, i, 7);
+        }
+        x.hold(5);
+        check.due("27 nothing of the row that was there", x.taken(5, 0), 0);
+        check.due("27 nor beyond the pairs", x.number(5, 15), NO);
     }
 
     private static void lose() {

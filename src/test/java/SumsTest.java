@@ -70,6 +70,12 @@ final class SumsTest {
         check.due("21 another's", x.sum(9999, 8), 0);
         check.due("21 changes nothing", x.count(2), 4 * 4 + 2 * 4);
         check.due("21 is no deed", x.count(3), 2);
+        x.points(6);
+        x.cut(16, 5);
+        x.cut(1, 2);
+        check.due("21 tries of six points", x.sum(9999, -1), 31);
+        check.due("21 cut 16 of six points", x.sum(9999, 16), 5);
+        check.due("21 all of six points", x.sum(31, 0), 7);
     }
 
     /** 3;3;4,5: CUT 1 gets 3 first; below it CUT 2 and CUT 3 are gone through, down to 0 each. */
@@ -116,6 +122,10 @@ final class SumsTest {
         check.due("22 longest none", x.gauge(3, 0), 0);
         check.due("22 longest one", x.gauge(3, 1), 0);
         check.due("22 longest", x.gauge(3, 14), 50);
+        check.due("22 longest of a PAIR in a row", x.gauge(3, 6), 30);
+        check.due("22 longest of the last PAIR", x.gauge(3, 12), 6);
+        check.due("22 longest of the first PAIR", x.gauge(3, 3), 1);
+        check.due("22 longest of all", x.gauge(3, 15), 400);
         check.due("22 slack", x.gauge(4, 14), 36);
         check.due("22 slack of two", x.gauge(4, 9), 0);
         check.due("22 slack of one", x.gauge(4, 1), 0);

@@ -61,6 +61,10 @@ final class TrianglesTest {
         check.due("12 its points", x.rounds(1), 12);
         Texts.read(x, "3;1;1,0");
         check.due("12 even", x.rounds(0), 0);
+        for (String text : new String[] {"3;3;0,0", "3;0;3,0", "3;0;0,3"}) {
+            Texts.read(x, text);
+            check.due("12 one long one in " + text, x.rounds(1), 12);
+        }
         Texts.read(x, "4;0;0,0;0,0,1");
         check.due("12 of PAIR (2, 3)", x.rounds(0), 2);
         check.due("12 the first of them", x.rounds(1), 23);
