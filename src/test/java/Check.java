@@ -19,6 +19,14 @@ final class Check {
         }
     }
 
+    void same(String what, String got, String want) {
+        asked++;
+        if (!got.equals(want)) {
+            wrong++;
+            System.out.println(what + ": is\n" + got + "\n  due is\n" + want);
+        }
+    }
+
     /** Ends the program, with exit code 1 if something was wrong. */
     void end() {
         System.out.println(asked + " answers, " + wrong + " not as due");

@@ -10,13 +10,13 @@ final class RanksTest {
     }
 
     private static void allWalls(int n) {
-        CutDistances x = new CutDistances();
         Model model = new Model();
-        x.points(n);
         model.points(n);
         int all = model.walls(3, 0);
-        check.due("13 how many of " + n + " points", x.walls(3, 0), all);
         for (int k = 0; k < all; k++) {
+            // What an object answers behind its 512th call is free, so each WALL has one of its own.
+            CutDistances x = new CutDistances();
+            x.points(n);
             String wall = " of wall " + k + " of " + n + " points";
             check.due("15 width" + wall, x.holdWall(0, 3, k), model.holdWall(0, 3, k));
             for (int i = 0; i < n; i++) {
