@@ -33,6 +33,33 @@ final class Benches {
         tape(x, "3;1;22,333");
     }
 
+    static CutDistances ofPoints(int n) {
+        CutDistances x = new CutDistances();
+        x.points(n);
+        return x;
+    }
+
+    static CutDistances ofText(String text) {
+        CutDistances x = new CutDistances();
+        Texts.read(x, text);
+        return x;
+    }
+
+    static void rowOf(CutDistances x, int h, int... numbers) {
+        x.row(h, numbers.length);
+        for (int i = 0; i < numbers.length; i++) {
+            x.set(h, i, numbers[i]);
+        }
+    }
+
+    /** Whether a POINT is in CUT s, by halving and not by shifting. */
+    static boolean isIn(int s, int point) {
+        for (int k = 1; k < point; k++) {
+            s /= 2;
+        }
+        return point > 0 && s % 2 == 1;
+    }
+
     static void tape(Object x, String text) {
         for (int i = 0; i < text.length(); i++) {
             Calls.ask(x, "feed(" + (int) text.charAt(i) + ", 1)");

@@ -32,24 +32,9 @@ final class DetailsTest {
         check.end();
     }
 
-    private static CutDistances ofText(String text) {
-        CutDistances x = new CutDistances();
-        Texts.read(x, text);
-        return x;
-    }
-
-    private static CutDistances ofPoints(int n) {
-        CutDistances x = new CutDistances();
-        x.points(n);
-        return x;
-    }
-
     private static CutDistances withWall(int... numbers) {
-        CutDistances x = ofPoints(numbers.length);
-        x.row(0, numbers.length);
-        for (int i = 0; i < numbers.length; i++) {
-            x.set(0, i, numbers[i]);
-        }
+        CutDistances x = Benches.ofPoints(numbers.length);
+        Benches.rowOf(x, 0, numbers);
         x.wallOf(0, 0);
         return x;
     }
@@ -103,7 +88,7 @@ final class DetailsTest {
     /** "No DEED can be taken BACK behind points() or undo(), also if N stays as it was." */
     private static void noDeedBehindPoints() {
         for (int n = 2; n <= 6; n++) {
-            CutDistances x = ofText("4;1;2,3;4,5,6");
+            CutDistances x = Benches.ofText("4;1;2,3;4,5,6");
             x.put(0, 1, 9);
             check.due("points tells what N was", x.points(n), 4);
             check.due("no deeds behind points(" + n + ")", x.count(3), 0);
@@ -118,7 +103,7 @@ final class DetailsTest {
     }
 
     private static void noDeedBehindUndo() {
-        CutDistances x = ofText("4;1;2,3;4,5,6");
+        CutDistances x = Benches.ofText("4;1;2,3;4,5,6");
         check.due("undo refused", x.undo(), STATE);
         check.due("it leaves the deed", x.count(3), 1);
         x.image();
@@ -172,7 +157,7 @@ final class DetailsTest {
             "2;5", "3;1;2,3", "4;1;2,3;4,5,6", "5;1;1,1;1,1,1;1,1,1,1", "6;1;1,1;1,1,1;1,1,1,1;1,1,1,1,1",
         };
         for (int fewer = 2; fewer <= 6; fewer++) {
-            CutDistances x = ofPoints(6);
+            CutDistances x = Benches.ofPoints(6);
             for (int point = 0; point < 6; point++) {
                 x.place(point, 50 + point, 60 + point);
             }
@@ -188,7 +173,7 @@ final class DetailsTest {
     }
 
     private static void comingPlacesByBack() {
-        CutDistances x = ofPoints(6);
+        CutDistances x = Benches.ofPoints(6);
         for (int point = 0; point < 6; point++) {
             x.place(point, 50 + point, 60 + point);
         }
@@ -234,7 +219,7 @@ final class DetailsTest {
     /** "A TRY can be one with the number 0": all DISTANCES 0 take a TRY for each CUT. */
     private static void triesWith0() {
         for (int n = 2; n <= 6; n++) {
-            CutDistances x = ofPoints(n);
+            CutDistances x = Benches.ofPoints(n);
             int cuts = (1 << (n - 1)) - 1;
             check.due("tries of all 0, " + n + " points", x.sum(9999, -1), cuts);
             check.due("just as many, " + n + " points", x.sum(cuts, -1), cuts);
@@ -245,7 +230,7 @@ final class DetailsTest {
 
     /** "tries are enough if the last one finds the SUM": of these DISTANCES the 9999th, the 10000th does. */
     private static void lastTryFindsTheSum() {
-        CutDistances x = ofText("4;24;25,11;2,26,27");
+        CutDistances x = Benches.ofText("4;24;25,11;2,26,27");
         int[] due = {32, 5, 6, 19, 2, 0, 0, 0};
         for (int s = 0; s < due.length; s++) {
             check.due("found by the 9999th try, s " + s, x.sum(9999, s), due[s]);
@@ -253,7 +238,7 @@ final class DetailsTest {
         }
         check.due("tries made", x.sum(9999, -1), 9999);
         check.due("tries made, with one less", x.sum(9998, -1), SPENT);
-        CutDistances y = ofText("4;1;30,29;27,26,17");
+        CutDistances y = Benches.ofText("4;1;30,29;27,26,17");
         for (int s = -1; s < 8; s++) {
             check.due("the 10000th would find it, s " + s, y.sum(9999, s), SPENT);
         }
@@ -263,19 +248,19 @@ final class DetailsTest {
     private static void notWhateverIsAsked() {
         String[] texts = {"3;1;1,1", "3;0;0,1", "4;2;2,2;2,2,1", "5;2;1,1;1,1,2;1,1,2,2", "3;21;46,46", "3;19;69,49"};
         for (String text : texts) {
-            CutDistances x = ofText(text);
+            CutDistances x = Benches.ofText(text);
             int due = text.equals("3;19;69,49") ? SPENT : NOT;
             for (int s = -1; s < 1 << (x.count(0) - 1); s++) {
                 check.due("s " + s + " of " + text, x.sum(9999, s), due);
             }
             check.due("no such cut of " + text, x.sum(9999, 1 << (x.count(0) - 1)), BAD);
         }
-        CutDistances even = ofText("5;2;1,1;1,1,2;1,1,2,2");
+        CutDistances even = Benches.ofText("5;2;1,1;1,1,2;1,1,2,2");
         check.due("not by an odd round", even.rounds(0), 0);
         check.due("nor by a broken triangle", even.triangles(0), 0);
         check.due("nor by a wall of three points, but by one of five", even.walls(1, 1), 1);
-        check.due("the 9999th try is needed", ofText("3;21;46,46").sum(9998, 0), SPENT);
-        CutDistances x = ofText("3;0;0,1");
+        check.due("the 9999th try is needed", Benches.ofText("3;21;46,46").sum(9998, 0), SPENT);
+        CutDistances x = Benches.ofText("3;0;0,1");
         check.due("by the third try", x.sum(3, 0), NOT);
         check.due("a try more is needed", x.sum(2, 0), SPENT);
         check.due("and more", x.sum(1, -1), SPENT);
@@ -286,12 +271,12 @@ final class DetailsTest {
         // CUT 1 SEPARATES (0, 1), (1, 2), (1, 3): each in turn is the least one, 2, and the others are 5.
         String[] texts = {"4;2;0,5;0,5,0", "4;5;0,2;0,5,0", "4;5;0,5;0,2,0"};
         for (String text : texts) {
-            CutDistances x = ofText(text);
+            CutDistances x = Benches.ofText(text);
             // CUT 1 gets 2, 1 and 0, and behind each of these the other six get 0: they SEPARATE a PAIR of 0.
             check.due("just enough of " + text, x.sum(3 * 7, 0), NOT);
             check.due("one less of " + text, x.sum(3 * 7 - 1, 0), SPENT);
         }
-        CutDistances x = ofPoints(4);
+        CutDistances x = Benches.ofPoints(4);
         x.cut(1, 2);
         check.due("the first try, with 2, is right", x.sum(7, 1), 2);
         check.due("seven tries", x.sum(9999, -1), 7);
@@ -302,7 +287,7 @@ final class DetailsTest {
         String[] texts = {"2;005", "2;05", "3;000;001,010"};
         String[] spelled = {"2;5", "2;5", "3;0;1,10"};
         for (int k = 0; k < texts.length; k++) {
-            CutDistances x = ofText(texts[k]);
+            CutDistances x = Benches.ofText(texts[k]);
             check.same("read of " + texts[k], Texts.spelled(x), spelled[k]);
         }
         CutDistances x = new CutDistances();
@@ -329,7 +314,7 @@ final class DetailsTest {
 
     /** "WALLS are numbered by their rows of numbers from the least on, not by their width." */
     private static void wallsNotByWidth() {
-        CutDistances x = ofPoints(2);
+        CutDistances x = Benches.ofPoints(2);
         for (int k = 0; k < 6; k++) {
             check.due("b(0) of wall " + k, x.wall(3, k, 0) - 3, k - 2);
         }
@@ -341,12 +326,12 @@ final class DetailsTest {
 
     /** "The greatest VALUE need not be above 0." */
     private static void greatestValueBelow0() {
-        CutDistances x = ofPoints(2);
+        CutDistances x = Benches.ofPoints(2);
         x.put(0, 1, 1);
         check.due("none is broken", x.walls(3, 1), 0);
         check.due("the greatest is 0", x.walls(3, 4), 2);
         check.due("of width 1", x.walls(1, 4), 0);
-        CutDistances y = ofPoints(6);
+        CutDistances y = Benches.ofPoints(6);
         for (int s = 1; s < 32; s++) {
             y.cut(s, 3);
         }
@@ -385,7 +370,7 @@ final class DetailsTest {
     /** "The gauge of no POINT and of one is 0 but ACROSS." */
     private static void gaugesOfNoneAndOne() {
         for (int n = 2; n <= 6; n++) {
-            CutDistances x = ofPoints(n);
+            CutDistances x = Benches.ofPoints(n);
             x.cut(1, 7);
             for (int kind : new int[] {0, 1, 3, 4}) {
                 check.due("no point, kind " + kind, x.gauge(kind, 0), 0);
@@ -402,18 +387,18 @@ final class DetailsTest {
 
     /** "Rows of POINTS can be straight": from the one to the other at once, which may be the least sum. */
     private static void straightRows() {
-        CutDistances x = ofText("3;5;5,10");
+        CutDistances x = Benches.ofText("3;5;5,10");
         check.due("as long as by a stop", x.paths(), 0);
         x.put(1, 2, 9);
         check.due("shorter than by a stop", x.paths(), 0);
         x.put(1, 2, 11);
         check.due("longer than by a stop", x.paths(), 1);
         check.due("the row by the stop", x.at(1, 2), 10);
-        CutDistances y = ofPoints(2);
+        CutDistances y = Benches.ofPoints(2);
         y.put(0, 1, 999);
         check.due("of two points there is no other", y.paths(), 0);
         check.due("it stays", y.at(0, 1), 999);
-        CutDistances z = ofText("6;1;999,1;999,999,1;999,999,999,1;999,999,999,999,1");
+        CutDistances z = Benches.ofText("6;1;999,1;999,999,1;999,999,999,1;999,999,999,999,1");
         check.due("one row of all POINTS", z.paths(), 10);
         check.due("from end to end", z.at(5, 0), 5);
     }
@@ -421,7 +406,7 @@ final class DetailsTest {
     /** "A CUT by 0 is no DEED." */
     private static void cutBy0() {
         for (int s = 1; s < 8; s++) {
-            CutDistances x = ofText("4;0;999,0;999,0,5");
+            CutDistances x = Benches.ofText("4;0;999,0;999,0,5");
             check.due("all together", x.cut(s, 0), 999 + 999 + 5);
             check.due("no deed", x.count(3), 1);
         }

@@ -23,25 +23,6 @@ final class MoreTermsTest {
         check.end();
     }
 
-    private static CutDistances ofText(String text) {
-        CutDistances x = new CutDistances();
-        Texts.read(x, text);
-        return x;
-    }
-
-    private static CutDistances ofPoints(int n) {
-        CutDistances x = new CutDistances();
-        x.points(n);
-        return x;
-    }
-
-    private static boolean isIn(int s, int point) {
-        for (int k = 1; k < point; k++) {
-            s /= 2;
-        }
-        return point > 0 && s % 2 == 1;
-    }
-
     /** "DISTANCE of any two POINTS is the numbers of all CUTS that SEPARATE them, together" */
     private static void sumTellsAllDistances() {
         String[] texts = {
@@ -49,7 +30,7 @@ final class MoreTermsTest {
             "5;2;4,2;4,4,2;2,4,4,2", "6;0;0,0;0,0,0;0,0,0,0;7,7,7,7,7",
         };
         for (String text : texts) {
-            CutDistances x = ofText(text);
+            CutDistances x = Benches.ofText(text);
             int n = x.count(0);
             int[] numbers = new int[1 << (n - 1)];
             int together = 0;
@@ -63,7 +44,7 @@ final class MoreTermsTest {
                 for (int j = i + 1; j < n; j++) {
                     int far = 0;
                     for (int s = 1; s < numbers.length; s++) {
-                        far += isIn(s, i) != isIn(s, j) ? numbers[s] : 0;
+                        far += Benches.isIn(s, i) != Benches.isIn(s, j) ? numbers[s] : 0;
                     }
                     check.due("sum of points " + i + ", " + j + " of " + text, far, x.at(i, j));
                 }
@@ -73,7 +54,7 @@ final class MoreTermsTest {
 
     /** "(It ends with the first SUM.)" All DISTANCES 2: the four CUTS of one POINT each; those of two come later. */
     private static void firstSumEnds() {
-        CutDistances x = ofText("4;2;2,2;2,2,2");
+        CutDistances x = Benches.ofText("4;2;2,2;2,2,2");
         int[] due = {4, 1, 1, 0, 1, 0, 0, 1};
         for (int s = 0; s < due.length; s++) {
             check.due("the first of two sums, s " + s, x.sum(9999, s), due[s]);
@@ -83,7 +64,7 @@ final class MoreTermsTest {
     /** DOUBLED is under WITHIN, ACROSS under DOUBLED, LONGEST under WITHIN, SLACK under LONGEST. */
     private static void gaugesUnderOthers() {
         for (int set = 0; set < 64; set++) {
-            CutDistances x = ofText("6;1;20,3;4,50,6;7,8,9,100;11,120,13,14,15");
+            CutDistances x = Benches.ofText("6;1;20,3;4,50,6;7,8,9,100;11,120,13,14,15");
             long within = 0;
             long across = 0;
             long longest = 0;
@@ -107,7 +88,7 @@ final class MoreTermsTest {
     private static void eachDeedTakenBack() {
         String[] deeds = {"put(0, 1, 8)", "cut(5, 3)", "paths()", "town()", "stretch(3)", "read()"};
         for (String deed : deeds) {
-            CutDistances x = ofText("4;9;1,2;30,4,5");
+            CutDistances x = Benches.ofText("4;9;1,2;30,4,5");
             x.image();
             x.undo();
             x.place(1, 2, 3);
@@ -142,7 +123,7 @@ final class MoreTermsTest {
 
     /** "x and y (0 .. 99 each; 0 at first ..); how far their x are apart, plus how far their y are" */
     private static void townOf(int n) {
-        CutDistances x = ofPoints(n);
+        CutDistances x = Benches.ofPoints(n);
         x.cut(1, 5);
         check.due("all places 0 at first", x.town(), n - 1);
         check.due("all 0 then", x.count(2), 0);
@@ -228,7 +209,7 @@ final class MoreTermsTest {
     private static void spelledOf(int n) {
         int[] ends = {0, 9, 10, 99, 100, 999};
         for (int v : ends) {
-            CutDistances x = ofPoints(n);
+            CutDistances x = Benches.ofPoints(n);
             StringBuilder due = new StringBuilder().append(n);
             for (int i = 1; i < n; i++) {
                 for (int j = 0; j < i; j++) {
@@ -294,7 +275,7 @@ final class MoreTermsTest {
     private static void judgedOf(int n) {
         int pairs = n * (n - 1) / 2;
         for (int size = 0; size <= 20; size++) {
-            CutDistances x = ofPoints(n);
+            CutDistances x = Benches.ofPoints(n);
             x.row(0, size);
             for (int i = 0, p = 0; i < n; i++) {
                 for (int j = i + 1; j < n; j++, p++) {
@@ -319,7 +300,7 @@ final class MoreTermsTest {
     private static void imageKeeps() {
         for (int kept = 2; kept <= 6; kept++) {
             for (int now = 2; now <= 6; now++) {
-                CutDistances x = ofPoints(kept);
+                CutDistances x = Benches.ofPoints(kept);
                 x.put(0, kept - 1, 40 + kept);
                 x.place(kept - 1, 1, kept);
                 check.due("kept of " + kept, x.image(), kept);

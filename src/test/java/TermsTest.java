@@ -27,22 +27,10 @@ final class TermsTest {
         check.end();
     }
 
-    private static CutDistances ofText(String text) {
-        CutDistances x = new CutDistances();
-        Texts.read(x, text);
-        return x;
-    }
-
-    private static CutDistances ofPoints(int n) {
-        CutDistances x = new CutDistances();
-        x.points(n);
-        return x;
-    }
-
     /** "There are POINTS 0 .. N less 1 (N 2 .. 6; 4 at first)." */
     private static void pointsOf(int n) {
         check.due("4 at first", new CutDistances().points(n), 4);
-        CutDistances x = ofPoints(n);
+        CutDistances x = Benches.ofPoints(n);
         check.due("the last of " + n, x.place(n - 1, 3, 4), 0);
         check.due("it is there", x.place(n - 1, 0, 0), 304);
         check.due("one more than " + n, x.place(n, 0, 0), BAD);
@@ -51,7 +39,7 @@ final class TermsTest {
 
     /** "a whole number 0 .. 999 (0 at first), the same from j to i" */
     private static void distancesOf(int n) {
-        CutDistances x = ofPoints(n);
+        CutDistances x = Benches.ofPoints(n);
         for (int i = 0; i < n; i++) {
             for (int j = 0; j < n; j++) {
                 String what = "of " + i + ", " + j + " of " + n;
@@ -67,7 +55,7 @@ final class TermsTest {
 
     /** "PAIRS: (0, 1), (0, 2), .., (0, N less 1), (1, 2), .., (N less 2, N less 1), in this order." */
     private static void orderOfPairs(int n) {
-        CutDistances x = ofPoints(n);
+        CutDistances x = Benches.ofPoints(n);
         for (int i = 0; i < n; i++) {
             for (int j = i + 1; j < n; j++) {
                 x.put(j, i, 10 * i + j);
@@ -91,25 +79,18 @@ final class TermsTest {
             cuts *= 2;
         }
         for (int s = 1; s < cuts; s++) {
-            CutDistances x = ofPoints(n);
+            CutDistances x = Benches.ofPoints(n);
             x.cut(s, 9);
             for (int i = 0; i < n; i++) {
                 for (int j = i + 1; j < n; j++) {
-                    int due = isIn(s, i) != isIn(s, j) ? 9 : 0;
+                    int due = Benches.isIn(s, i) != Benches.isIn(s, j) ? 9 : 0;
                     check.due("cut " + s + " and points " + i + ", " + j + " of " + n, x.at(i, j), due);
                 }
             }
         }
-        check.due("no cut 0", ofPoints(n).cut(0, 9), BAD);
-        check.due("no cut more", ofPoints(n).cut(cuts, 9), BAD);
-        check.due("no cut -1", ofPoints(n).cut(-1, 9), BAD);
-    }
-
-    private static boolean isIn(int s, int point) {
-        for (int k = 1; k < point; k++) {
-            s /= 2;
-        }
-        return point > 0 && s % 2 == 1;
+        check.due("no cut 0", Benches.ofPoints(n).cut(0, 9), BAD);
+        check.due("no cut more", Benches.ofPoints(n).cut(cuts, 9), BAD);
+        check.due("no cut -1", Benches.ofPoints(n).cut(-1, 9), BAD);
     }
 
     /** "BROKEN, if DISTANCE of j and k is above that of i and j and that of i and k together; 100 i, 10 j and k" */
@@ -126,7 +107,7 @@ final class TermsTest {
     }
 
     private static void brokenIsAbove(int i, int j, int k) {
-        CutDistances x = ofText("6;5;5,5;5,5,5;5,5,5,5;5,5,5,5,5");
+        CutDistances x = Benches.ofText("6;5;5,5;5,5,5;5,5,5,5;5,5,5,5,5");
         String what = "triangle " + i + ", " + j + ", " + k;
         x.put(i, j, 3);
         x.put(i, k, 4);
@@ -140,7 +121,7 @@ final class TermsTest {
 
     /** "their order is that of these numbers" */
     private static void trianglesInOrder() {
-        CutDistances x = ofText("4;50;90,60;50,7,8");
+        CutDistances x = Benches.ofText("4;50;90,60;50,7,8");
         // By POINT 3 both (0, 2), 90, and (1, 2), 60, are too long, and no other PAIR is by any POINT.
         check.due("two of them", x.triangles(0), 2);
         check.due("302 ahead of 312", x.triangles(1), 302);
@@ -179,19 +160,12 @@ final class TermsTest {
     private static void numbersOfAWall() {
         for (int a = -5; a <= 5; a++) {
             for (int b = -5; b <= 5; b++) {
-                CutDistances x = ofPoints(2);
-                rowOf(x, 0, a, b);
+                CutDistances x = Benches.ofPoints(2);
+                Benches.rowOf(x, 0, a, b);
                 boolean wall = a + b == 1 && a >= -3 && a <= 3 && b >= -3 && b <= 3;
                 int width = Math.max(a < 0 ? -a : a, b < 0 ? -b : b);
                 check.due("a wall of " + a + ", " + b, x.wallOf(1, 0), wall ? width : STATE);
             }
-        }
-    }
-
-    private static void rowOf(CutDistances x, int h, int... numbers) {
-        x.row(h, numbers.length);
-        for (int i = 0; i < numbers.length; i++) {
-            x.set(h, i, numbers[i]);
         }
     }
 
@@ -208,8 +182,8 @@ final class TermsTest {
                         b[i] += i == point ? 0 : share;
                         left -= i == point ? 0 : share;
                     }
-                    CutDistances x = ofPoints(6);
-                    rowOf(x, 0, b);
+                    CutDistances x = Benches.ofPoints(6);
+                    Benches.rowOf(x, 0, b);
                     boolean wall = together == 1 && v >= -3 && v <= 3;
                     String what = v + " at point " + point + ", together " + together;
                     check.holds(what, wall == x.wallOf(1, 0) > 0);
@@ -227,7 +201,7 @@ final class TermsTest {
         int[] due = {1, 1, 2, 2, 3, 3, 3};
         for (int k = 0; k < walls.length; k++) {
             CutDistances x = new CutDistances();
-            rowOf(x, 0, walls[k]);
+            Benches.rowOf(x, 0, walls[k]);
             check.due("width by wallOf, " + k, x.wallOf(0, 0), due[k]);
             check.due("width by taken, " + k, x.taken(0, 1), due[k]);
         }
@@ -240,16 +214,16 @@ final class TermsTest {
         int all = 0;
         for (int i = 0; i < n; i++) {
             for (int j = i + 1; j < n; j++) {
-                CutDistances x = ofPoints(n);
-                rowOf(x, 0, b);
+                CutDistances x = Benches.ofPoints(n);
+                Benches.rowOf(x, 0, b);
                 x.wallOf(0, 0);
                 x.put(i, j, 999);
                 check.due("value by pair " + i + ", " + j + " of " + n, x.value(0), 999L * b[i] * b[j]);
                 all += b[i] * b[j];
             }
         }
-        CutDistances x = ofPoints(n);
-        rowOf(x, 0, b);
+        CutDistances x = Benches.ofPoints(n);
+        Benches.rowOf(x, 0, b);
         x.wallOf(0, 0);
         check.due("value of nothing", x.value(0), 0);
         for (int i = 0; i < n; i++) {
@@ -263,7 +237,7 @@ final class TermsTest {
     /** "It is BROKEN, if its VALUE is above 0, TIGHT, if that is 0." The WALL 1, 1, -1 is the last of width 1. */
     private static void brokenTightNeither() {
         for (int v = -1; v <= 1; v++) {
-            CutDistances x = ofPoints(3);
+            CutDistances x = Benches.ofPoints(3);
             x.put(0, 1, 10 + v);
             x.put(0, 2, 4);
             x.put(1, 2, 6);
@@ -279,12 +253,12 @@ final class TermsTest {
     /** "numbered from 0 by their rows (the lesser b(0) first, of like ones the lesser b(1), and so on)" */
     private static void orderOfWalls(int n) {
         for (int m = 1; m <= 3; m++) {
-            int all = ofPoints(n).walls(m, 0);
+            int all = Benches.ofPoints(n).walls(m, 0);
             // An object is used for 512 calls at most, so one is asked for 50 WALLS.
             int[] before = null;
             CutDistances x = null;
             for (int k = 0; k < all; k++) {
-                x = k % 50 == 0 ? ofPoints(n) : x;
+                x = k % 50 == 0 ? Benches.ofPoints(n) : x;
                 int[] b = new int[n];
                 int together = 0;
                 x.holdWall(0, m, k);
@@ -312,9 +286,9 @@ final class TermsTest {
 
     /** "a CUT for which its VALUE would be 0, were DISTANCE 1 of POINTS that the CUT SEPARATES, 0 of others" */
     private static void rootsByTheirValue(int n) {
-        int all = ofPoints(n).walls(3, 0);
+        int all = Benches.ofPoints(n).walls(3, 0);
         for (int k = 0; k < all; k += n == 6 ? 61 : n == 5 ? 11 : 1) {
-            CutDistances x = ofPoints(n);
+            CutDistances x = Benches.ofPoints(n);
             x.holdWall(0, 3, k);
             int found = 0;
             for (int s = 1; s < 1 << (n - 1); s++) {
@@ -352,8 +326,8 @@ final class TermsTest {
 
     private static void facet(int roots, int rank, int... wall) {
         int n = wall.length;
-        CutDistances x = ofPoints(n);
-        rowOf(x, 0, wall);
+        CutDistances x = Benches.ofPoints(n);
+        Benches.rowOf(x, 0, wall);
         x.wallOf(0, 0);
         String what = " of wall " + Arrays.toString(wall);
         check.due("roots" + what, x.roots(0, 0), roots);
@@ -365,18 +339,18 @@ final class TermsTest {
     private static void switchedNumbers() {
         int[] b = {2, 3, -3, -2, 1, 0};
         for (int s = 1; s <= 31; s++) {
-            CutDistances x = ofPoints(6);
-            rowOf(x, 0, b);
+            CutDistances x = Benches.ofPoints(6);
+            Benches.rowOf(x, 0, b);
             x.wallOf(0, 0);
             int together = 0;
             boolean otherwise = false;
             for (int k = 1; k < 6; k++) {
-                together += isIn(s, k) ? b[k] : 0;
-                otherwise = otherwise || isIn(s, k) && b[k] != 0;
+                together += Benches.isIn(s, k) ? b[k] : 0;
+                otherwise = otherwise || Benches.isIn(s, k) && b[k] != 0;
             }
             check.due("switched by " + s, x.switched(0, s), together != 0 ? STATE : otherwise ? 1 : 0);
             for (int k = 0; k < 6; k++) {
-                int due = together == 0 && isIn(s, k) ? -b[k] : b[k];
+                int due = together == 0 && Benches.isIn(s, k) ? -b[k] : b[k];
                 check.due("b(" + k + ") switched by " + s, x.number(0, k), due);
             }
             check.due("its width stays, switched by " + s, x.taken(0, 1), 3);

@@ -20,15 +20,8 @@ final class WallsTest {
         check.end();
     }
 
-    private static void rowOf(CutDistances x, int h, int... numbers) {
-        x.row(h, numbers.length);
-        for (int i = 0; i < numbers.length; i++) {
-            x.set(h, i, numbers[i]);
-        }
-    }
-
     private static void wallOfNumbers(CutDistances x, int h, int... numbers) {
-        rowOf(x, h, numbers);
+        Benches.rowOf(x, h, numbers);
         x.wallOf(h, h);
     }
 
@@ -155,17 +148,17 @@ final class WallsTest {
 
     private static void wallOf() {
         CutDistances x = new CutDistances();
-        rowOf(x, 0, 2, -3, 1, 1, 77);
+        Benches.rowOf(x, 0, 2, -3, 1, 1, 77);
         check.due("16 width", x.wallOf(5, 0), 3);
         check.due("16 the first N", x.number(5, 3), 1);
         check.due("16 no more", x.number(5, 4), NO);
         check.due("16 the row stays", x.lose(0), 3);
-        rowOf(x, 0, 0, 0, 1, 0, 9, 9);
+        Benches.rowOf(x, 0, 0, 0, 1, 0, 9, 9);
         check.due("16 the same holder", x.wallOf(0, 0), 1);
         check.due("16 a wall then", x.taken(0, 2), 4);
         check.due("16 its number", x.number(0, 2), 1);
         check.due("16 without the rest", x.number(0, 4), NO);
-        rowOf(x, 1, -3, 3, 3, -2);
+        Benches.rowOf(x, 1, -3, 3, 3, -2);
         check.due("16 over another wall", x.wallOf(0, 1), 3);
         check.due("16 its first number", x.number(0, 0), -3);
         x.set(1, 0, 5);
@@ -183,19 +176,19 @@ final class WallsTest {
         check.due("16 distances", x.wallOf(0, 1), OTHER_KIND);
         x.holdWall(1, 1, 0);
         check.due("16 a wall", x.wallOf(0, 1), OTHER_KIND);
-        rowOf(x, 1, 1, 0, 0);
+        Benches.rowOf(x, 1, 1, 0, 0);
         check.due("16 fewer", x.wallOf(0, 1), STATE);
-        rowOf(x, 1);
+        Benches.rowOf(x, 1);
         check.due("16 none at all", x.wallOf(0, 1), STATE);
-        rowOf(x, 1, 1, 1, 0, 0);
+        Benches.rowOf(x, 1, 1, 1, 0, 0);
         check.due("16 together 2", x.wallOf(0, 1), STATE);
-        rowOf(x, 1, 0, 0, 0, 0);
+        Benches.rowOf(x, 1, 0, 0, 0, 0);
         check.due("16 together 0", x.wallOf(0, 1), STATE);
-        rowOf(x, 1, 4, -3, 0, 0);
+        Benches.rowOf(x, 1, 4, -3, 0, 0);
         check.due("16 above 3", x.wallOf(0, 1), STATE);
-        rowOf(x, 1, -4, 3, 2, 0);
+        Benches.rowOf(x, 1, -4, 3, 2, 0);
         check.due("16 below -3", x.wallOf(0, 1), STATE);
-        rowOf(x, 1, Integer.MIN_VALUE, Integer.MIN_VALUE, 1, 0);
+        Benches.rowOf(x, 1, Integer.MIN_VALUE, Integer.MIN_VALUE, 1, 0);
         check.due("16 together 1 by wrapping round", x.wallOf(0, 1), STATE);
         check.due("16 refused holds nothing", x.lose(0), 0);
     }
